@@ -1,0 +1,103 @@
+/** What the tests share: feeding sources, comparing answers, telling the result. */
+final class Check {
+    private static final int NONE = ShareEight.NONE;
+
+    private final String name;
+    private int count = 0;
+    private int wrong = 0;
+
+    Check(String name) {
+        this.name = name;
+    }
+
+    void due(String what, long got, long want) {
+        count++;
+        if (got != want) {
+            wrong++;
+            System.out.println(name + ": " + what + " answered " + got + ", due is " + want);
+        }
+    }
+
+    void due(String what, boolean got, boolean want) {
+        due(what, got ? 1 : 0, want ? 1 : 0);
+    }
+
+    void finish() {
+        System.out.println(name + ": " + count + " answers, " + wrong + " wrong");
+        if (wrong > 0) {
+            System.exit(1);
+        }
+    }
+
+    /** Puts a text on the tape, behind what is there. */
+    static void feed(ShareEight x, String source) {
+        int before = x.look(11);
+        for (int i = 0; i < source.length(); i += 20) {
+            x.feed(four(source, i), four(source, i + 4), four(source, i + 8), four(source, i + 12), four(source, i + 16));
+        }
+        x.end(before + source.length());
+    }
+
+    private static int four(String source, int from) {
+        int number = 0;
+        for (int i = from; i < from + 4; i++) {
+            number = (number << 8) | (i < source.length() ? source.charAt(i) & 255 : 0);
+        }
+        return number;
+    }
+
+    static int assemble(ShareEight x, String source) {
+        feed(x, source);
+        return x.assemble();
+    }
+
+    /** A source must have no fault, and so many words. */
+    ShareEight words(String source, int want) {
+        ShareEight x = new ShareEight(1, 1, 1, 1);
+        due("words of " + source, assemble(x, source), want);
+        due("fault(0) of " + source, x.fault(0), 0);
+        due("fault(1) of " + source, x.fault(1), NONE);
+        return x;
+    }
+
+    /** A source must make such words, from a place on. */
+    void made(String source, int place, int... want) {
+        ShareEight x = new ShareEight(1, 1, 1, 1);
+        assemble(x, source);
+        due("fault(0) of " + source, x.fault(0), 0);
+        for (int i = 0; i < want.length; i++) {
+            due("made(" + Integer.toOctalString(place + i) + ") of " + source, x.made(place + i), want[i]);
+        }
+    }
+
+    /** A source must have a fault at a place. */
+    void fault(String source, int kind, int place) {
+        ShareEight x = new ShareEight(1, 1, 1, 1);
+        due("assemble() of " + source, assemble(x, source), NONE);
+        due("fault(0) of " + source, x.fault(0), kind);
+        due("fault(1) of " + source, x.fault(1), place);
+    }
+
+    /** A user gets a source's words and is READY at 0200. */
+    void start(ShareEight x, int u, String source) {
+        due("a fault in " + source, assemble(x, source) == NONE, false);
+        due("mount(" + u + ")", x.mount(u), true);
+        due("begin(" + u + ", 0200)", x.begin(u, 0200), true);
+    }
+
+    /** A house of one user, whose words are in the core: the next tick does its second instruction. */
+    ShareEight alone(String source) {
+        ShareEight x = new ShareEight(1, 1, 64, 1);
+        start(x, 0, source);
+        due("run(257) of " + source, x.run(257), 1);
+        return x;
+    }
+
+    void user(ShareEight x, int u, int what, int want) {
+        due("user(" + u + ", " + what + ") at " + x.look(0), x.user(u, what), want);
+    }
+
+    void look(ShareEight x, int what, int want) {
+        due("look(" + what + ") at " + x.look(0), x.look(what), want);
+    }
+}
