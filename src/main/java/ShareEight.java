@@ -1135,68 +1135,64 @@ public final class ShareEight {
         }
     }
 
-    /** The words of 4096 places, and which of them are there by the text or as literals. */
+    /** What lies at 4096 places: nothing, a word of the text, or a literal, which is marked. */
     private static final class Sheet {
-        private static final int FREE = 0;
-        private static final int BY_TEXT = 1;
-        private static final int BY_LITERAL = 2;
+        private static final int LITERAL = 010000;
 
-        private final int[] words = new int[WORDS];
-        private final int[] kinds = new int[WORDS];
+        private final int[] cells = new int[WORDS];
         private int count = 0;
 
+        Sheet() {
+            Arrays.fill(cells, NONE);
+        }
+
         void clear() {
-            Arrays.fill(words, 0);
-            Arrays.fill(kinds, FREE);
+            Arrays.fill(cells, NONE);
             count = 0;
         }
 
         int at(int place) {
-            return place < 0 || place >= WORDS || kinds[place] == FREE ? NONE : words[place];
+            return place < 0 || place >= WORDS || cells[place] == NONE ? NONE : cells[place] & MASK;
         }
 
         void copyTo(int[] target) {
-            if (target.length >= WORDS) {
-                System.arraycopy(words, 0, target, 0, WORDS);
+            for (int i = 0; i < WORDS && i < target.length; i++) {
+                target[i] = cells[i] == NONE ? 0 : cells[i] & MASK;
             }
         }
 
         boolean hasLiteral(int from, int length) {
-            for (int i = from; i < from + length && i < WORDS; i++) {
-                if (i >= 0 && kinds[i] == BY_LITERAL) {
+            for (int i = Math.max(0, from); i < from + length && i < WORDS; i++) {
+                if (cells[i] >= LITERAL) {
                     return true;
                 }
             }
             return false;
         }
 
-        void write(int place, int value) {
-            lay(place, value, BY_TEXT);
-        }
-
-        private void lay(int place, int value, int kind) {
+        void lay(int place, int cell) {
             if (place < 0 || place >= WORDS) {
                 return;
             }
-            if (kinds[place] == FREE) {
+            if (cells[place] == NONE) {
                 count++;
             }
-            kinds[place] = kind;
-            words[place] = value;
+            cells[place] = cell;
         }
 
         /** The place of a literal in the page that begins at first; NONE without room. */
         int literalPlace(int first, int value) {
+            int wanted = LITERAL | value;
             for (int i = first + PAGE_WORDS - 1; i >= first && i >= 0 && i < WORDS; i--) {
-                if (kinds[i] == BY_TEXT) {
+                if (cells[i] == NONE) {
+                    lay(i, wanted);
+                    return i;
+                }
+                if (cells[i] == wanted) {
+                    return i;
+                }
+                if (cells[i] < LITERAL) {
                     return NONE;
-                }
-                if (kinds[i] == FREE) {
-                    lay(i, value, BY_LITERAL);
-                    return i;
-                }
-                if (words[i] == value) {
-                    return i;
                 }
             }
             return NONE;
@@ -1215,6 +1211,8 @@ public final class ShareEight {
         private static final int INDIRECT = 11;
         private static final int ZERO_PAGE = 12;
         private static final int MOST_TOLD = 200;
+        /** Between two names there is at least a byte. */
+        private static final int MOST_NAMES = TAPE_BYTES / 2 + 1;
         private static final int NOT_TOLD = 0;
         private static final int BY_COMMA = 1;
         private static final int BY_EQUALS = 2;
@@ -1227,9 +1225,9 @@ public final class ShareEight {
             06031, 06032, 06034, 06036, 06041, 06046, 06420, 06417, 06440, 06441
         };
 
-        private final long[] letters = new long[FIXED_VALUES.length + TAPE_BYTES];
-        private final int[] values = new int[FIXED_VALUES.length + TAPE_BYTES];
-        private final int[] tellings = new int[FIXED_VALUES.length + TAPE_BYTES];
+        private final long[] letters = new long[FIXED_VALUES.length + MOST_NAMES];
+        private final int[] values = new int[FIXED_VALUES.length + MOST_NAMES];
+        private final int[] tellings = new int[FIXED_VALUES.length + MOST_NAMES];
         private int count = 0;
         private int toldCount = 0;
 
@@ -1312,10 +1310,10 @@ public final class ShareEight {
         private final Names names;
         private final int[] kinds = new int[TAPE_BYTES + 1];
         private final int[] starts = new int[TAPE_BYTES + 1];
-        private final int[] ends = new int[TAPE_BYTES + 1];
-        /** A name's number, an octal number's value, a letter's code, the first byte of a TEXT. */
+        /** A name's number, a number's value in octal, a letter's code, where the bytes of a TEXT begin. */
         private final int[] values = new int[TAPE_BYTES + 1];
-        private final int[] decimals = new int[TAPE_BYTES + 1];
+        /** A number's value in decimal, where the bytes of a TEXT end. */
+        private final int[] others = new int[TAPE_BYTES + 1];
         private int count = 0;
         private int[] bytes = new int[0];
         private int length = 0;
@@ -1346,16 +1344,12 @@ public final class ShareEight {
             return place < 0 || place >= length ? NONE : bytes[place];
         }
 
-        int endOf(int index) {
-            return index < 0 || index >= count ? length : ends[index];
-        }
-
         int valueOf(int index) {
             return index < 0 || index >= count ? NONE : values[index];
         }
 
-        int decimalOf(int index) {
-            return index < 0 || index >= count ? NONE : decimals[index];
+        int otherOf(int index) {
+            return index < 0 || index >= count ? NONE : others[index];
         }
 
         private int skipBlanks(int from) {
@@ -1397,13 +1391,12 @@ public final class ShareEight {
             return append(isSign ? c : BAD, next + 1, 0, 0);
         }
 
-        private int append(int kind, int behind, int value, int decimal) {
+        private int append(int kind, int behind, int value, int other) {
             if (count < kinds.length) {
                 kinds[count] = kind;
                 starts[count] = next;
-                ends[count] = behind;
                 values[count] = value;
-                decimals[count] = decimal;
+                others[count] = other;
                 count++;
             }
             next = behind;
@@ -1437,7 +1430,7 @@ public final class ShareEight {
             }
             for (int place = first + 1; place < length && isPlain(byteAt(place)); place++) {
                 if (byteAt(place) == mark) {
-                    return append(TEXT, place + 1, first + 1, 0);
+                    return append(TEXT, place + 1, first + 1, place);
                 }
             }
             return append(BAD_TEXT, first, 0, 0);
@@ -1542,7 +1535,7 @@ public final class ShareEight {
             if (kind != Tokens.NUMBER) {
                 return kind;
             }
-            int number = decimal ? tokens.decimals[index] : tokens.values[index];
+            int number = decimal ? tokens.others[index] : tokens.values[index];
             return number == NONE ? Tokens.BAD : kind;
         }
 
@@ -1694,7 +1687,7 @@ public final class ShareEight {
                 return;
             }
             for (int i = 0; makes && i < size; i++) {
-                spare.write(place + i, 0);
+                spare.lay(place + i, 0);
             }
             place += size;
         }
@@ -1702,7 +1695,7 @@ public final class ShareEight {
         private void passText() {
             int index = at;
             int from = tokens.valueOf(index);
-            int behind = tokens.endOf(index) - 1;
+            int behind = tokens.otherOf(index);
             int size = (behind - from) / 2 + 1;
             at++;
             if (!mayLay(index, size)) {
@@ -1710,7 +1703,7 @@ public final class ShareEight {
             }
             for (int i = 0; makes && i < size; i++) {
                 int high = sixBits(from + 2 * i, behind);
-                spare.write(place + i, (high << 6) | sixBits(from + 2 * i + 1, behind));
+                spare.lay(place + i, (high << 6) | sixBits(from + 2 * i + 1, behind));
             }
             place += size;
         }
@@ -1805,7 +1798,7 @@ public final class ShareEight {
                 return place & MASK;
             }
             if (kind == Tokens.NUMBER && decimal) {
-                return tokens.decimalOf(index);
+                return tokens.otherOf(index);
             }
             if (!isName) {
                 return value;
@@ -1850,14 +1843,14 @@ public final class ShareEight {
                 report(NO_ROOM, at);
             } else if (makes) {
                 // The word lies there before its own literals look for room.
-                spare.write(place, 0);
+                spare.lay(place, 0);
             }
             return fault == 0;
         }
 
         private void finishWord(int value) {
             if (fault == 0 && makes) {
-                spare.write(place, value);
+                spare.lay(place, value);
             }
             place++;
         }
