@@ -31,6 +31,9 @@ public final class HouseTest {
         goingOut();
         whichSlot();
         blocksAndQueue();
+        outWhileOthersRun();
+        blockThenQueue();
+        longestWaits();
         wakingInOrder();
         CHECK.finish();
     }
@@ -114,7 +117,7 @@ public final class HouseTest {
 
     private static void mountAfterRunning() {
         ShareEight x = new ShareEight(1, 1, 64, 64);
-        CHECK.start(x, 0, "TAD (111;TLS;TLS;DCA 50;TAD (3;WRB;CLA CMA CML;DCA 51;CMA MQL;TAD (5;6001");
+        CHECK.start(x, 0, "TAD (111;TLS;TLS;DCA 50;TAD (3;WRB;CLA CMA CML;DCA 51;CMA;MQL;TAD (5;6001");
         x.key(0, 1);
         x.set(0, 7);
         x.run(300);
@@ -122,9 +125,10 @@ public final class HouseTest {
         CHECK.user(x, 0, 9, 0);
         CHECK.user(x, 0, 2, 5);
         CHECK.user(x, 0, 3, 1);
+        CHECK.user(x, 0, 4, 07777);
         CHECK.due("core's word", x.word(0, 050), 0111);
         CHECK.due("a WRONG one", x.mount(0), true);
-        int[] users = {6, 0200, 0, 0, 0, 10, 1, 1, 1, NONE, NONE, 0, 7, NONE, NONE};
+        int[] users = {6, 0200, 0, 0, 0, 11, 1, 1, 1, NONE, NONE, 0, 7, NONE, NONE};
         for (int what = 0; what < users.length; what++) {
             CHECK.user(x, 0, what, users[what]);
         }
@@ -453,6 +457,7 @@ public final class HouseTest {
         CHECK.due("block(0, 0, -1)", x.block(0, 0, -1), NONE);
         CHECK.due("block(0, 0, 128)", x.block(0, 0, 128), NONE);
         CHECK.due("block(0, 7, 127)", x.block(0, 7, 127), 0);
+        CHECK.due("block(0, 0, 0)", x.block(0, 0, 0), 0);
         CHECK.start(x, 1, "TAD (200;MQL;TAD (7;WRB;HLT");
         x.run(400);
         CHECK.user(x, 1, 0, 6);
@@ -635,6 +640,102 @@ public final class HouseTest {
         x.run(8);
         CHECK.look(x, 12, 1);
         CHECK.look(x, 2, 3);
+        CHECK.look(x, 3, 0);
+    }
+
+    private static void outWhileOthersRun() {
+        ShareEight x = new ShareEight(3, 2, 2, 1);
+        CHECK.start(x, 0, CHANGING);
+        CHECK.start(x, 1, LOOP);
+        x.run(600);
+        CHECK.start(x, 2, LOOP);
+        int ticks = 0;
+        while (x.look(2) != 1 && ticks < 10) {
+            x.run(1);
+            ticks++;
+        }
+        CHECK.look(x, 2, 1);
+        CHECK.look(x, 3, 0);
+        int done = x.user(1, 5);
+        int others = x.user(0, 5);
+        CHECK.due("the other one has all ticks", x.run(200), 200);
+        CHECK.user(x, 1, 5, done + 200);
+        CHECK.user(x, 0, 5, others);
+    }
+
+    /** Users 0 and 1 wait for a BLOCK each, 2 for a slot, of which there are three or two. */
+    private static ShareEight threeWaiting(int slots) {
+        ShareEight x = new ShareEight(4, slots, 64, 1);
+        CHECK.start(x, 0, "KRB;CLA;WRB;HLT");
+        CHECK.start(x, 1, "KRB;CLA;RDB;HLT");
+        x.run(700);
+        CHECK.user(x, 0, 0, 2);
+        CHECK.user(x, 1, 0, 2);
+        x.key(0, 1);
+        x.key(1, 1);
+        CHECK.start(x, 2, LOOP);
+        x.halt(2);
+        x.run(6);
+        CHECK.user(x, 0, 0, 5);
+        CHECK.user(x, 1, 0, 5);
+        CHECK.look(x, 2, 4);
+        CHECK.look(x, 3, 0);
+        x.begin(2, 0200);
+        x.run(5);
+        CHECK.look(x, 2, 4);
+        CHECK.look(x, 4, 128 - 16);
+        CHECK.look(x, 12, 0);
+        return x;
+    }
+
+    private static void blockThenQueue() {
+        ShareEight x = threeWaiting(3);
+        x.run(1);
+        CHECK.look(x, 12, 1);
+        CHECK.look(x, 2, 2);
+        CHECK.look(x, 3, 2);
+        CHECK.look(x, 5, 2);
+        CHECK.start(x, 3, LOOP);
+        x.run(256);
+        CHECK.look(x, 6, 3);
+        CHECK.look(x, 2, 3);
+        CHECK.look(x, 3, 1);
+        CHECK.look(x, 5, 1);
+        x.run(8);
+        CHECK.look(x, 12, 2);
+        CHECK.look(x, 2, 2);
+        CHECK.look(x, 3, 3);
+        CHECK.due("one that is STOPPED gives its slot", x.look(5), 0);
+        x = threeWaiting(2);
+        x.run(1);
+        CHECK.look(x, 2, 2);
+        CHECK.look(x, 3, 2);
+        CHECK.due("not the slot of one that waits for a BLOCK", x.look(5), 0);
+        CHECK.user(x, 0, 9, NONE);
+        CHECK.user(x, 1, 9, 1);
+    }
+
+    private static void longestWaits() {
+        ShareEight x = new ShareEight(3, 3, 64, 1);
+        for (int u = 0; u < 3; u++) {
+            CHECK.start(x, u, "KRB;CLA;WRB;HLT");
+        }
+        x.run(1000);
+        x.key(1, 1);
+        x.run(4);
+        CHECK.look(x, 3, 1);
+        x.key(2, 1);
+        x.run(3);
+        x.key(0, 1);
+        x.run(3);
+        CHECK.user(x, 0, 0, 5);
+        CHECK.user(x, 2, 0, 5);
+        CHECK.look(x, 3, 1);
+        x.run(2);
+        CHECK.look(x, 12, 1);
+        CHECK.look(x, 3, 2);
+        x.run(8);
+        CHECK.look(x, 12, 2);
         CHECK.look(x, 3, 0);
     }
 

@@ -20,6 +20,7 @@ public final class MachineTest {
         divides();
         shifts();
         keys();
+        counts();
         printing();
         sleeping();
         nothings();
@@ -157,7 +158,12 @@ public final class MachineTest {
         skip("SPA SNA SZL", 1, 1, false);
         stops(load(0, 0, 0) + "SZA CLA;HLT;HLT", 0, 0, 0, 0210);
         stops(load(5, 0, 0) + "SZA CLA;HLT;HLT", 0, 0, 0, 0207);
-        ShareEight x = CHECK.alone("CLA IAC;OSR;7606;HLT");
+        ShareEight x = CHECK.alone("CLA;SKP;HLT;7600;HLT");
+        x.set(0, 07777);
+        x.run(3);
+        CHECK.user(x, 0, AC, 0);
+        CHECK.user(x, 0, STATE, 6);
+        x = CHECK.alone("CLA IAC;OSR;7606;HLT");
         CHECK.due("set", x.set(0, 05070), true);
         x.run(1);
         CHECK.user(x, 0, AC, 05071);
@@ -242,6 +248,19 @@ public final class MachineTest {
         CHECK.user(x, 0, DONE, 2);
     }
 
+    private static void counts() {
+        String all = "6031;6032;6041;NOP;6042;6044;6046;6201;6417;KRS;KRB";
+        ShareEight x = new ShareEight(1, 1, 64, 1);
+        x.key(0, 1);
+        x.key(0, 2);
+        x.key(0, 3);
+        CHECK.start(x, 0, all + ";HLT");
+        x.run(300);
+        CHECK.user(x, 0, STATE, 6);
+        // Two of the twelve are skipped, all others are done.
+        CHECK.user(x, 0, DONE, 10);
+    }
+
     private static void printing() {
         ShareEight x = new ShareEight(1, 1, 64, 64);
         CHECK.start(x, 0, "TAD (7501;TSF;HLT;TLS;6044;JMP .-2");
@@ -314,7 +333,7 @@ public final class MachineTest {
     }
 
     private static void blocks() {
-        ShareEight x = CHECK.alone(load(012, 1, 07700) + "WRB;CLA IAC;HLT;*7700;11;12;*0;21;*77;22;*100;23");
+        ShareEight x = CHECK.alone(load(012, 1, 07700) + "WRB;CLA IAC;HLT;*7700;11;12;*7720;13;*0;21;*77;22;*100;23");
         x.run(4);
         CHECK.due("a BLOCK isn't done at once", x.run(1), 0);
         CHECK.user(x, 0, STATE, 5);
@@ -326,8 +345,12 @@ public final class MachineTest {
         CHECK.look(x, 3, 0);
         CHECK.look(x, 4, 0);
         CHECK.look(x, 5, 0);
-        CHECK.due("seven eighths", x.run(7), 0);
+        CHECK.due("an eighth", x.run(1), 0);
+        CHECK.due("its first word", x.block(0, 2, 0), 011);
+        CHECK.due("no more than sixteen", x.block(0, 2, 16), 0);
+        CHECK.due("seven eighths", x.run(6), 0);
         CHECK.look(x, 4, 112);
+        CHECK.due("word 16", x.block(0, 2, 16), 013);
         CHECK.due("the BLOCK, and what is behind it", x.run(1), 2);
         CHECK.look(x, 12, 1);
         CHECK.user(x, 0, DONE, 7);

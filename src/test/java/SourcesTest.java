@@ -75,6 +75,11 @@ public final class SourcesTest {
         CHECK.due("literals count", Check.assemble(x, "TAD (1;TAD (2;TAD (1"), 5);
         CHECK.due("nothing takes all away", x.assemble(), 0);
         CHECK.due("gone", x.made(0200), NONE);
+        CHECK.due("a name", Check.assemble(x, "A,B=5;A"), 1);
+        CHECK.due("it may be told again", Check.assemble(x, "A,A;C,"), 1);
+        CHECK.due("names before are gone", Check.assemble(x, "C;B"), NONE);
+        CHECK.due("untold", x.fault(0), 3);
+        CHECK.due("C is untold", x.fault(1), 0);
         CHECK.words("$ ) what ever", 0);
         CHECK.words("1;2\n\n;;3 /4;5)\n$6", 3);
     }
@@ -115,6 +120,7 @@ public final class SourcesTest {
         CHECK.made("DECIMAL;17;4095;9;OCTAL;17", 0200, 17, 4095, 9, 017);
         CHECK.made("\"A;\" ;\"/;\"\";\";;\"$;\"~", 0200, 0301, 0240, 0257, 0242, 0273, 0244, 0376);
         CHECK.made("DECIMAL;*128;10;", 128, 10, NONE);
+        CHECK.made("10;DECIMAL;10", 0200, 8, 10);
     }
 
     private static void values() {
@@ -156,6 +162,7 @@ public final class SourcesTest {
         CHECK.made("TAD 400;JMP 400", 0376, NONE, 0400);
         CHECK.made("*20;TAD 400", 020, 01577);
         CHECK.made("*20;TAD 177;TAD 200-1", 020, 01177, 01177);
+        CHECK.made("AND 400;I 1000;JMP 400", 0200, 0777, 01400, 05777);
         CHECK.made("TAD I+1;TAD Z 7", 0200, 01777, 01007);
         CHECK.made("TAD I+1", 0377, 0401);
         CHECK.made("CLA TAD 5;TAD!5;TAD+5", 0200, 07205, 01005, 01005);
@@ -211,6 +218,8 @@ public final class SourcesTest {
         CHECK.fault("DECIMAL;9;OCTAL;9", 1, 16);
         CHECK.fault("5 \"", 1, 2);
         CHECK.fault("5 \"\n", 1, 2);
+        CHECK.fault("5 \"\u007f", 1, 2);
+        CHECK.made("\"~", 0200, 0376);
         CHECK.fault("\"A5", 1, 2);
         CHECK.made("\"a5", 0200, 0345);
         CHECK.fault("A, TEXT", 1, 3);
@@ -239,6 +248,12 @@ public final class SourcesTest {
         CHECK.fault("5 PAGE", 2, 2);
         CHECK.fault("1+DECIMAL", 2, 2);
         CHECK.fault("5 TEXT /A/", 2, 2);
+        CHECK.fault("5 TEXT", 2, 2);
+        CHECK.fault("5 TEXT,5", 2, 2);
+        CHECK.fault(";".repeat(1999) + ")", 2, 1999);
+        CHECK.fault(";".repeat(1998) + "A=", 2, 2000);
+        CHECK.fault(";".repeat(1999) + "#", 1, 1999);
+        CHECK.words("1;".repeat(1000), 1000);
         CHECK.fault("TEXT /A/ 5", 2, 9);
         CHECK.fault("*200 5", 2, 5);
         CHECK.fault("A=5 6", 2, 4);
@@ -289,6 +304,7 @@ public final class SourcesTest {
         CHECK.fault("TAD (5;*370;ZBLOCK 10", 8, 12);
         CHECK.fault("TAD (5;*376;TEXT /AB/", 8, 12);
         CHECK.words("TAD (5;*376;TEXT /A/", 3);
+        CHECK.words("TAD (5;*376;7", 3);
         CHECK.made("5;*200;6;*200;ZBLOCK 1", 0200, 0);
         StringBuilder full = new StringBuilder("OCTAL;*200\n");
         for (int i = 0; i < 128; i++) {
