@@ -949,7 +949,11 @@ public final class ShareEight {
         void tick() {
             time++;
             for (int i = 0; i < users.length; i++) {
-                attend(users[i]);
+                // Most users need nothing in most ticks: they cost no call.
+                User user = users[i];
+                if (user.state == SLEEPS || user.out.size > 0) {
+                    attend(user);
+                }
             }
             if (!channel.isIdle() && channel.advance()) {
                 finishTask(channel.user, channel.slot);

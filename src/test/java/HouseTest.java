@@ -664,9 +664,9 @@ public final class HouseTest {
     }
 
     /** Users 0 and 1 wait for a BLOCK each, 2 for a slot, of which there are three or two. */
-    private static ShareEight threeWaiting(int slots) {
+    private static ShareEight threeWaiting(int slots, String second) {
         ShareEight x = new ShareEight(4, slots, 64, 1);
-        CHECK.start(x, 0, "KRB;CLA;WRB;HLT");
+        CHECK.start(x, 0, "KRB;" + second + ";WRB;HLT");
         CHECK.start(x, 1, "KRB;CLA;RDB;HLT");
         x.run(700);
         CHECK.user(x, 0, 0, 2);
@@ -689,7 +689,7 @@ public final class HouseTest {
     }
 
     private static void blockThenQueue() {
-        ShareEight x = threeWaiting(3);
+        ShareEight x = threeWaiting(3, "CLA");
         x.run(1);
         CHECK.look(x, 12, 1);
         CHECK.look(x, 2, 2);
@@ -706,13 +706,28 @@ public final class HouseTest {
         CHECK.look(x, 2, 2);
         CHECK.look(x, 3, 3);
         CHECK.due("one that is STOPPED gives its slot", x.look(5), 0);
-        x = threeWaiting(2);
+        x = threeWaiting(2, "CLA");
         x.run(1);
         CHECK.look(x, 2, 2);
         CHECK.look(x, 3, 2);
         CHECK.due("not the slot of one that waits for a BLOCK", x.look(5), 0);
         CHECK.user(x, 0, 9, NONE);
         CHECK.user(x, 1, 9, 1);
+        x = threeWaiting(2, "DCA 50");
+        x.run(1);
+        CHECK.look(x, 2, 1);
+        CHECK.look(x, 3, 0);
+        CHECK.look(x, 5, 0);
+        x = new ShareEight(2, 1, 64, 1);
+        CHECK.start(x, 0, "WRB;WRB;HLT");
+        x.run(257 + 1 + 8);
+        CHECK.look(x, 12, 1);
+        CHECK.user(x, 0, 0, 5);
+        CHECK.start(x, 1, LOOP);
+        x.run(1);
+        CHECK.due("no slot for the QUEUE: the BLOCK", x.look(2), 4);
+        CHECK.look(x, 3, 0);
+        CHECK.user(x, 0, 9, 0);
     }
 
     private static void longestWaits() {

@@ -286,6 +286,9 @@ public final class SourcesTest {
         }
         CHECK.words(many + "\n5;A0;T9;A1=3;A1", 4);
         CHECK.fault(many + "U0,", 6, many.length());
+        ShareEight twice = new ShareEight(1, 1, 1, 1);
+        CHECK.due("200 names", Check.assemble(twice, many.toString()), 0);
+        CHECK.due("200 names again", Check.assemble(twice, many.toString()), 0);
         CHECK.fault(many + "U0=)", 6, many.length());
     }
 
@@ -301,6 +304,7 @@ public final class SourcesTest {
         CHECK.fault("*377;0;*200;TAD 400", 8, 16);
         CHECK.fault("*177;0;*200;TAD [5", 8, 16);
         CHECK.fault("TAD (5;*377;A,0", 8, 14);
+        CHECK.fault("TAD (0;*377;5", 8, 12);
         CHECK.fault("TAD (5;*370;ZBLOCK 10", 8, 12);
         CHECK.fault("TAD (5;*376;TEXT /AB/", 8, 12);
         CHECK.words("TAD (5;*376;TEXT /A/", 3);
