@@ -1450,7 +1450,7 @@ public final class ShareEight {
                 decimal = decimal * 10 + digit;
                 place++;
             }
-            if (place - next > LONGEST_NUMBER || isLetter(byteAt(next - 1))) {
+            if (place - next > LONGEST_NUMBER) {
                 return append(BAD, place, 0, 0);
             }
             return append(NUMBER, place, octal, decimal > MASK ? NONE : decimal);

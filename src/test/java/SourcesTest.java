@@ -220,8 +220,12 @@ public final class SourcesTest {
         CHECK.fault("5 \"\n", 1, 2);
         CHECK.fault("5 \"\u007f", 1, 2);
         CHECK.made("\"~", 0200, 0376);
-        CHECK.fault("\"A5", 1, 2);
-        CHECK.made("\"a5", 0200, 0345);
+        CHECK.fault("\"A8", 1, 2);
+        CHECK.fault("\"A12345", 1, 2);
+        CHECK.fault("\"A00#", 1, 4);
+        CHECK.fault("\"AB5", 3, 2);
+        CHECK.made("\"A5;\"a5;\"Z00;\"5 2;\"52", 0200, 0305, 0345, 0332, 0267, 0267);
+        CHECK.made("TAD \"A-277;DECIMAL;\"A9;\"A+10", 0200, 01002, 0311, 0313);
         CHECK.fault("A, TEXT", 1, 3);
         CHECK.fault("TEXT \n/A/", 1, 0);
         CHECK.fault("TEXT /AB\n/", 1, 0);
