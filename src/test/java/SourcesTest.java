@@ -224,6 +224,7 @@ public final class SourcesTest {
         CHECK.fault("\"A12345", 1, 2);
         CHECK.fault("\"A00#", 1, 4);
         CHECK.fault("\"AB5", 3, 2);
+        CHECK.fault("TEXT AXA5", 2, 8);
         CHECK.made("\"A5;\"a5;\"Z00;\"5 2;\"52", 0200, 0305, 0345, 0332, 0267, 0267);
         CHECK.made("TAD \"A-277;DECIMAL;\"A9;\"A+10", 0200, 01002, 0311, 0313);
         CHECK.fault("A, TEXT", 1, 3);
