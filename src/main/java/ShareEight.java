@@ -1716,12 +1716,8 @@ public final class ShareEight {
             return byteIndex < behind ? tokens.byteAt(byteIndex) & 077 : 0;
         }
 
-        /** FULL, and a clash with a literal, are told behind all else that the statement has, its end too. */
+        /** FULL, and a clash with a literal, are told behind what is in the statement, ahead of a token behind it. */
         private boolean mayLay(int first, int size) {
-            int kind = kindAt(at);
-            if (fault == 0 && !isEnd(kind)) {
-                refuse(kind);
-            }
             if (fault == 0 && place + size > WORDS) {
                 report(FULL, first);
             }

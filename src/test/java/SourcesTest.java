@@ -331,8 +331,20 @@ public final class SourcesTest {
         CHECK.fault("*7777;0;TAD )", 6, 8);
         CHECK.fault("*7777;0;)", 2, 8);
         CHECK.fault("*7777;ZBLOCK B", 3, 13);
-        CHECK.fault("*7777;ZBLOCK 5 )", 2, 15);
-        CHECK.fault("*7777;TEXT /ABCD/ )", 2, 18);
+        CHECK.fault("*7777;ZBLOCK 5 )", 6, 6);
+        CHECK.fault("*7777;A,ZBLOCK 2 5", 6, 8);
+        CHECK.fault("*7777;ZBLOCK 2 %", 6, 6);
+        CHECK.fault("*7777;ZBLOCK 1 5", 2, 15);
+        CHECK.fault("*7777;ZBLOCK 1 9", 1, 15);
+        CHECK.fault("*7777;ZBLOCK 2+", 2, 15);
+        CHECK.fault("*7777;ZBLOCK 2+)", 2, 15);
+        CHECK.fault("*7777;ZBLOCK 9 5", 1, 13);
+        CHECK.fault("*7777;TEXT /ABCD/ )", 6, 6);
+        CHECK.fault("*7777;TEXT /A/ )", 2, 15);
+        CHECK.fault("*7777;TEXT /ABCD", 1, 6);
+        // The first pass's fault is told ahead of a clash with a literal, which is the second's.
+        CHECK.fault("TAD (5;*377;ZBLOCK 1 5", 2, 21);
+        CHECK.fault("TAD (5;*377;TEXT /A/ 5", 2, 21);
         CHECK.fault("TAD (5;*377;B", 8, 12);
         CHECK.fault("TAD 400 )", 2, 8);
         CHECK.fault("JMP I 400;B", 7, 6);
