@@ -3,6 +3,9 @@ final class Check {
     private static final int NONE = ShareEight.NONE;
 
     private final String name;
+    private String sentence = "";
+    private int sentences = 0;
+    private int ofSentence = 0;
     private int count = 0;
     private int wrong = 0;
 
@@ -10,11 +13,32 @@ final class Check {
         this.name = name;
     }
 
-    void due(String what, long got, long want) {
-        count++;
-        if (got != want) {
+    /** The answers from here on are tests of a sentence of the document; one without any is a failure. */
+    void says(String words) {
+        endSentence();
+        sentence = words;
+        sentences++;
+        ofSentence = 0;
+    }
+
+    private void endSentence() {
+        if (sentences > 0 && ofSentence == 0) {
             wrong++;
-            System.out.println(name + ": " + what + " answered " + got + ", due is " + want);
+            System.out.println(name + ": no test of \"" + sentence + "\"");
+        }
+    }
+
+    void due(String what, long got, long want) {
+        due(what, Long.toString(got), Long.toString(want));
+    }
+
+    void due(String what, String got, String want) {
+        count++;
+        ofSentence++;
+        if (!got.equals(want)) {
+            wrong++;
+            String told = sentence.isEmpty() ? "" : " by \"" + sentence + "\"";
+            System.out.println(name + ": " + what + " answered " + got + ", due is " + want + told);
         }
     }
 
@@ -23,7 +47,9 @@ final class Check {
     }
 
     void finish() {
-        System.out.println(name + ": " + count + " answers, " + wrong + " wrong");
+        endSentence();
+        String told = sentences == 0 ? "" : sentences + " sentences, ";
+        System.out.println(name + ": " + told + count + " answers, " + wrong + " wrong");
         if (wrong > 0) {
             System.exit(1);
         }
@@ -78,6 +104,11 @@ final class Check {
         due("fault(1) of " + source, x.fault(1), place);
     }
 
+    /** A source must have a fault where the mark ` stands, which is no byte of it. */
+    void faultAt(String marked, int kind) {
+        fault(marked.replace("`", ""), kind, marked.indexOf('`'));
+    }
+
     /** A user gets a source's words and is READY at 0200. */
     void start(ShareEight x, int u, String source) {
         due("a fault in " + source, assemble(x, source) == NONE, false);
@@ -91,6 +122,30 @@ final class Check {
         start(x, 0, source);
         due("run(257) of " + source, x.run(257), 1);
         return x;
+    }
+
+    /** A user's numbers 0 to 14, as one text. */
+    static String userText(ShareEight x, int u) {
+        StringBuilder text = new StringBuilder("user").append(u).append(':');
+        for (int what = 0; what <= 14; what++) {
+            text.append(' ').append(x.user(u, what));
+        }
+        return text.toString();
+    }
+
+    /** What can be looked at of the house, but for its users and words, as one text. */
+    static String houseText(ShareEight x, int slots) {
+        StringBuilder text = new StringBuilder("house:");
+        for (int what = 0; what <= 12; what++) {
+            text.append(' ').append(x.look(what));
+        }
+        for (int s = 0; s < slots; s++) {
+            text.append(" slot").append(s).append(':');
+            for (int what = 0; what <= 2; what++) {
+                text.append(' ').append(x.slot(s, what));
+            }
+        }
+        return text.toString();
     }
 
     void user(ShareEight x, int u, int what, int want) {

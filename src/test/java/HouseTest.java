@@ -204,8 +204,9 @@ public final class HouseTest {
     private static void waiting(String source, int state, boolean want) {
         ShareEight x = new ShareEight(1, 1, 64, 64);
         CHECK.start(x, 0, source);
+        x.run(256);
         int ticks = 0;
-        while (x.user(0, 0) != state && ticks < 400) {
+        while (x.user(0, 0) != state && ticks < 100) {
             x.run(1);
             ticks++;
         }

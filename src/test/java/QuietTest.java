@@ -12,9 +12,9 @@ public final class QuietTest {
 
     public static void main(String[] args) {
         Random random = new Random(8);
-        for (int i = 0; i < 60; i++) {
+        for (int i = 0; i < 160; i++) {
             ShareEight x = new ShareEight(any(random), any(random), any(random), any(random));
-            for (int calls = 0; calls < 400; calls++) {
+            for (int calls = 0; calls < 150; calls++) {
                 call(x, random);
             }
             CHECK.due("the time goes on", x.look(0) >= 0, true);
