@@ -155,4 +155,10 @@ final class Check {
     void look(ShareEight x, int what, int want) {
         due("look(" + what + ") at " + x.look(0), x.look(what), want);
     }
+
+    void slotIs(ShareEight x, int s, int owner, int changed, int ran) {
+        due("slot(" + s + ", 0) at " + x.look(0), x.slot(s, 0), owner);
+        due("slot(" + s + ", 1) at " + x.look(0), x.slot(s, 1), changed);
+        due("slot(" + s + ", 2) at " + x.look(0), x.slot(s, 2), ran);
+    }
 }

@@ -50,6 +50,7 @@ public final class HouseBoundsTest {
         slotsThatRan();
         noSlotAtAll();
         goingOut();
+        firstOfQueue();
         idling();
         runningOut();
         leavingEarly();
@@ -87,12 +88,6 @@ public final class HouseBoundsTest {
 
     private static String text(ShareEight x) {
         return Check.userText(x, 0) + Check.userText(x, 1) + Check.houseText(x, 1);
-    }
-
-    private static void slotIs(ShareEight x, int s, int owner, int changed, int ran) {
-        CHECK.due("slot(" + s + ", 0) at " + x.look(0), x.slot(s, 0), owner);
-        CHECK.due("slot(" + s + ", 1) at " + x.look(0), x.slot(s, 1), changed);
-        CHECK.due("slot(" + s + ", 2) at " + x.look(0), x.slot(s, 2), ran);
     }
 
     private static void taskIs(ShareEight x, int task, int user, int slot) {
@@ -225,11 +220,11 @@ public final class HouseBoundsTest {
             x.key(0, 1);
         }
         CHECK.due("before", Check.userText(x, 0), "user0: 7 138 5 1 4095 10 16 1 1 0 -1 1 7 -1 -1");
-        slotIs(x, 0, 0, 1, 1);
+        CHECK.slotIs(x, 0, 0, 1, 1);
         Check.assemble(x, "*7777;5");
         CHECK.due("mount", x.mount(0), true);
         CHECK.due("behind", Check.userText(x, 0), "user0: 6 128 0 0 0 10 16 1 1 -1 -1 1 7 -1 -1");
-        slotIs(x, 0, NONE, 0, 0);
+        CHECK.slotIs(x, 0, NONE, 0, 0);
         CHECK.due("word 0", x.word(0, 0), 0);
         CHECK.due("word 050", x.word(0, 050), 0);
         CHECK.due("word 0200", x.word(0, 0200), 0);
@@ -307,11 +302,11 @@ public final class HouseBoundsTest {
     private static void haltingOne() {
         CHECK.says("(it leaves the QUEUE, or runs no more: its slot has RUN then).");
         ShareEight x = inState(RUNS);
-        slotIs(x, 0, 0, 0, 0);
+        CHECK.slotIs(x, 0, 0, 0, 0);
         CHECK.look(x, 1, 0);
         x.halt(0);
         CHECK.look(x, 1, NONE);
-        slotIs(x, 0, 0, 0, 1);
+        CHECK.slotIs(x, 0, 0, 0, 1);
         x = inState(6);
         x.mount(0);
         x.begin(0, 0200);
@@ -329,7 +324,7 @@ public final class HouseBoundsTest {
         CHECK.look(x, 6, 2);
         x = waitingWithSlot();
         CHECK.due("one of the QUEUE that has a slot", x.halt(1), true);
-        slotIs(x, 1, 1, 0, 0);
+        CHECK.slotIs(x, 1, 1, 0, 0);
     }
 
     /** User 0 runs in slot 0, which has RUN; 1 has slot 1 and hasn't run; 2 and 3 have none. The time is 514. */
@@ -586,7 +581,7 @@ public final class HouseBoundsTest {
     }
 
     private static void wordsThatMove() {
-        CHECK.says("as it is for it (while it comes in: on the DRUM)");
+        CHECK.says("A user's words are in its slot, if it has one, else on the DRUM.");
         ShareEight x = new ShareEight(2, 1, 64, 64);
         bring(x, 1, "*7777;5;*200;JMP .");
         start(x, 0, "ISZ 50;HLT;*50;7;*7777;6");
@@ -599,6 +594,7 @@ public final class HouseBoundsTest {
         x.run(256);
         taskIs(x, 2, 1, 0);
         CHECK.due("one that is out: on the DRUM", x.word(0, 050), 010);
+        CHECK.says("as it is for it (while it comes in: on the DRUM)");
         x.run(255);
         CHECK.due("one that comes in: on the DRUM", x.word(1, 07777), 5);
         CHECK.due("the core has another one's", x.core(0, 07777), 6);
@@ -623,19 +619,24 @@ public final class HouseBoundsTest {
         for (int what : nothing) {
             CHECK.due("slot(0, " + what + ")", x.slot(0, what), NONE);
         }
-        slotIs(x, 3, NONE, 0, 0);
+        CHECK.slotIs(x, 3, NONE, 0, 0);
         start(x, 0, "DCA 50;HLT");
         x.run(256);
-        slotIs(x, 0, NONE, 0, 0);
+        CHECK.slotIs(x, 0, NONE, 0, 0);
         x.run(1);
-        slotIs(x, 0, 0, 1, 0);
+        CHECK.slotIs(x, 0, 0, 1, 0);
         x.run(1);
-        slotIs(x, 0, 0, 1, 1);
+        CHECK.slotIs(x, 0, 0, 1, 1);
         x.mount(0);
-        slotIs(x, 0, NONE, 0, 0);
+        CHECK.slotIs(x, 0, NONE, 0, 0);
     }
 
     private static void askingBlocks() {
+        CHECK.says("a FILE of 8 BLOCKS of 128 words");
+        CHECK.due("first", new ShareEight(6, 4, 64, 64).block(0, 0, 0), 0);
+        CHECK.due("last", new ShareEight(6, 4, 64, 64).block(5, 7, 127), 0);
+        CHECK.due("a ninth BLOCK", new ShareEight(6, 4, 64, 64).block(5, 8, 0), NONE);
+        CHECK.due("a 129th word", new ShareEight(6, 4, 64, 64).block(5, 7, 128), NONE);
         CHECK.says("Word i of BLOCK b of a user's FILE; NONE without such.");
         ShareEight x = new ShareEight(6, 4, 64, 64);
         int[] noUser = {MIN, -1, 6, MAX};
@@ -835,10 +836,10 @@ public final class HouseBoundsTest {
         x.run(10);
         x.halt(0);
         x.run(246);
-        slotIs(x, 0, NONE, 0, 0);
+        CHECK.slotIs(x, 0, NONE, 0, 0);
         CHECK.user(x, 0, SLOT, NONE);
         x.run(1);
-        slotIs(x, 0, 0, 0, 0);
+        CHECK.slotIs(x, 0, 0, 0, 0);
         CHECK.user(x, 0, SLOT, 0);
         CHECK.user(x, 0, STATE, 6);
     }
@@ -863,7 +864,7 @@ public final class HouseBoundsTest {
         x.run(254);
         CHECK.due("word 4079", x.drum(0, 07757), 07761);
         CHECK.due("word 4080", x.drum(0, 07760), 0);
-        slotIs(x, 0, 0, 1, 1);
+        CHECK.slotIs(x, 0, 0, 1, 1);
         CHECK.look(x, 7, 0);
         x.halt(1);
         x.run(1);
@@ -871,7 +872,7 @@ public final class HouseBoundsTest {
         CHECK.due("word 4095", x.drum(0, 07777), 1);
         CHECK.look(x, 7, 1);
         taskIs(x, 0, NONE, NONE);
-        slotIs(x, 0, NONE, 0, 0);
+        CHECK.slotIs(x, 0, NONE, 0, 0);
         CHECK.user(x, 0, SLOT, NONE);
     }
 
@@ -900,7 +901,7 @@ public final class HouseBoundsTest {
         CHECK.due("word 127", x.block(0, 0, 127), 6);
         CHECK.due("no word beyond", x.block(0, 1, 0), 0);
         CHECK.user(x, 0, STATE, 1);
-        slotIs(x, 0, 0, 0, 1);
+        CHECK.slotIs(x, 0, 0, 0, 1);
     }
 
     private static void tasksDone() {
@@ -1002,7 +1003,7 @@ public final class HouseBoundsTest {
             start(x, u, u == 3 ? LOOP : "HLT");
         }
         x.run(1100);
-        slotIs(x, 3, 3, 0, 1);
+        CHECK.slotIs(x, 3, 3, 0, 1);
         x.mount(2);
         x.mount(1);
         bring(x, 4, LOOP);
@@ -1037,7 +1038,7 @@ public final class HouseBoundsTest {
         start(x, 1, "HLT");
         start(x, 2, "HLT");
         x.run(1000);
-        slotIs(x, 0, 0, 0, 1);
+        CHECK.slotIs(x, 0, 0, 0, 1);
         start(x, 3, LOOP);
         x.run(1);
         taskIs(x, 2, 3, 1);
@@ -1050,13 +1051,13 @@ public final class HouseBoundsTest {
         start(x, 3, LOOP);
         x.run(1);
         taskIs(x, 1, 1, 1);
-        slotIs(x, 1, 1, 1, 1);
+        CHECK.slotIs(x, 1, 1, 1, 1);
         x.run(256);
         taskIs(x, 2, 3, 1);
         x = inState(6);
         start(x, 1, LOOP);
         x.run(1);
-        slotIs(x, 0, NONE, 0, 0);
+        CHECK.slotIs(x, 0, NONE, 0, 0);
         CHECK.look(x, 7, 0);
         x = inState(6);
         x.deposit(0, 0, 0);
@@ -1073,7 +1074,7 @@ public final class HouseBoundsTest {
         }
         x.run(1100);
         for (int s = 0; s < 3; s++) {
-            slotIs(x, s, s, 0, 1);
+            CHECK.slotIs(x, s, s, 0, 1);
         }
         int running = x.look(1);
         start(x, 3, LOOP);
@@ -1083,8 +1084,8 @@ public final class HouseBoundsTest {
         x = waitingWithSlot();
         CHECK.look(x, 0, 514);
         CHECK.look(x, 1, 0);
-        slotIs(x, 0, 0, 0, 1);
-        slotIs(x, 1, 1, 0, 0);
+        CHECK.slotIs(x, 0, 0, 0, 1);
+        CHECK.slotIs(x, 1, 1, 0, 0);
         start(x, 2, LOOP);
         CHECK.due("0 runs, 1 hasn't RUN", x.run(62), 62);
         taskIs(x, 0, NONE, NONE);
@@ -1102,7 +1103,7 @@ public final class HouseBoundsTest {
         CHECK.due("its first QUANTUM", x.run(63), 63);
         CHECK.look(x, 0, 320);
         taskIs(x, 0, NONE, NONE);
-        slotIs(x, 0, 0, 0, 1);
+        CHECK.slotIs(x, 0, 0, 0, 1);
         CHECK.user(x, 0, PLACE, 1);
         CHECK.due("its end", x.run(1), 0);
         taskIs(x, 2, 1, 0);
@@ -1143,6 +1144,35 @@ public final class HouseBoundsTest {
         CHECK.user(x, 0, 5, done);
     }
 
+    private static void firstOfQueue() {
+        CHECK.says("if nobody runs: the first of the QUEUE that has a slot from which no words go out runs: it leaves the QUEUE, with QUANTUM ticks.");
+        ShareEight x = new ShareEight(3, 1, 7, 64);
+        start(x, 0, "KRB;JMP .");
+        x.run(257);
+        start(x, 1, LOOP);
+        start(x, 2, LOOP);
+        x.key(0, 1);
+        CHECK.user(x, 0, PLACE, 2);
+        CHECK.due("0 has RUN, and its slot is taken", x.run(1), 0);
+        x = new ShareEight(3, 2, 7, 64);
+        start(x, 0, LOOP);
+        x.run(257);
+        start(x, 1, LOOP);
+        start(x, 2, LOOP);
+        x.run(6);
+        CHECK.look(x, 1, NONE);
+        CHECK.user(x, 1, PLACE, 0);
+        CHECK.user(x, 2, PLACE, 1);
+        CHECK.user(x, 0, PLACE, 2);
+        CHECK.due("those without a slot are passed over", x.run(1), 1);
+        CHECK.look(x, 1, 0);
+        CHECK.user(x, 0, PLACE, NONE);
+        CHECK.user(x, 0, LEFT, 6);
+        CHECK.user(x, 1, PLACE, 0);
+        CHECK.user(x, 2, PLACE, 1);
+        CHECK.look(x, 9, 2);
+    }
+
     private static void idling() {
         CHECK.says("Nobody (also when all that are READY have no slot, or go out): an idle tick.");
         ShareEight x = inState(0);
@@ -1178,10 +1208,10 @@ public final class HouseBoundsTest {
             if (quantum > 1) {
                 x.run(quantum - 1);
                 CHECK.user(x, 0, LEFT, 1);
-                slotIs(x, 0, 0, 0, 0);
+                CHECK.slotIs(x, 0, 0, 0, 0);
             }
             x.run(1);
-            slotIs(x, 0, 0, 0, 1);
+            CHECK.slotIs(x, 0, 0, 0, 1);
             CHECK.user(x, 0, LEFT, quantum);
             CHECK.look(x, 1, 0);
             start(x, 1, LOOP);
@@ -1205,11 +1235,11 @@ public final class HouseBoundsTest {
         start(x, 0, "NOP;KRB;KRB;JMP .");
         x.run(257);
         CHECK.user(x, 0, LEFT, 4);
-        slotIs(x, 0, 0, 0, 0);
+        CHECK.slotIs(x, 0, 0, 0, 0);
         x.run(1);
         CHECK.user(x, 0, LEFT, NONE);
         CHECK.look(x, 1, NONE);
-        slotIs(x, 0, 0, 0, 1);
+        CHECK.slotIs(x, 0, 0, 0, 1);
         x.key(0, 1);
         x.run(1);
         CHECK.due("a QUANTUM anew", x.user(0, LEFT), 4);
@@ -1219,7 +1249,7 @@ public final class HouseBoundsTest {
         CHECK.due("and again", x.user(0, LEFT), 4);
         for (int state = 2; state <= 7; state++) {
             x = inState(state);
-            slotIs(x, 0, 0, 0, 1);
+            CHECK.slotIs(x, 0, 0, 0, 1);
             CHECK.look(x, 1, NONE);
             CHECK.look(x, 9, 0);
         }

@@ -428,25 +428,19 @@ public final class HouseTest {
         CHECK.due("slot(2, 0)", x.slot(2, 0), NONE);
         CHECK.due("slot(0, -1)", x.slot(0, -1), NONE);
         CHECK.due("slot(0, 3)", x.slot(0, 3), NONE);
-        slotIs(x, 0, NONE, 0, 0);
+        CHECK.slotIs(x, 0, NONE, 0, 0);
         CHECK.start(x, 1, "*200;NOP;NOP;ISZ 50;JMP .");
         x.run(256);
-        slotIs(x, 0, NONE, 0, 0);
+        CHECK.slotIs(x, 0, NONE, 0, 0);
         x.run(1);
-        slotIs(x, 0, 1, 0, 0);
+        CHECK.slotIs(x, 0, 1, 0, 0);
         x.run(2);
-        slotIs(x, 0, 1, 1, 0);
+        CHECK.slotIs(x, 0, 1, 1, 0);
         x.run(4);
-        slotIs(x, 0, 1, 1, 0);
+        CHECK.slotIs(x, 0, 1, 1, 0);
         x.run(1);
-        slotIs(x, 0, 1, 1, 1);
-        slotIs(x, 1, NONE, 0, 0);
-    }
-
-    private static void slotIs(ShareEight x, int s, int owner, int changed, int ran) {
-        CHECK.due("slot(" + s + ", 0) at " + x.look(0), x.slot(s, 0), owner);
-        CHECK.due("slot(" + s + ", 1) at " + x.look(0), x.slot(s, 1), changed);
-        CHECK.due("slot(" + s + ", 2) at " + x.look(0), x.slot(s, 2), ran);
+        CHECK.slotIs(x, 0, 1, 1, 1);
+        CHECK.slotIs(x, 1, NONE, 0, 0);
     }
 
     private static void block() {

@@ -257,6 +257,10 @@ public final class MachineBoundsTest {
         CHECK.due("one that stops is done", x.run(1), 1);
         registers("7606", x, 0204, 0, 0, 0);
         CHECK.user(x, 0, STATE, STOPPED);
+        x = from("CMA;OSR", 0200, 0);
+        x.set(0, 05252);
+        x.run(2);
+        registers("OSR of bits that are there", x, 0202, 07777, 0, 0);
         x = from("7412", 0200, 1);
         registers("SKP and HLT", x, 0202, 0, 0, 0);
         CHECK.user(x, 0, STATE, STOPPED);

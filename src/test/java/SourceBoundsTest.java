@@ -17,6 +17,7 @@ public final class SourceBoundsTest {
         bytesOfTexts();
         remarks();
         emptyStatements();
+        longestTokens();
         lengthOfNames();
         lengthOfNumbers();
         greatestNumbers();
@@ -300,6 +301,18 @@ public final class SourceBoundsTest {
         CHECK.made("A,;B,;\nA;B;", 0200, 0200, 0200, NONE);
     }
 
+    private static void longestTokens() {
+        CHECK.says("TOKENS, as long as can be, blanks between");
+        CHECK.faultAt("`TADI 5", 3);
+        CHECK.faultAt("A=1;B=2;`AB", 3);
+        CHECK.made("A=1;B=2;A B;  A   B  ;12;1 2;1+ 2;1 +2", 0200, 3, 3, 012, 3, 3, 3, NONE);
+        CHECK.made("A=1;\" A;\"AA;1A;A.;..;(5)", 0200, 0241, 0301, 1, 0203, 0204, 0377, NONE);
+        CHECK.made("A,B,C=5;A B C;TEXTA=7;TEXTA", 0200, 0205, 7, NONE);
+        CHECK.says("WORDS are 0 .. 4095, all goes round by 4096.");
+        CHECK.made("7777+1;0-1;A=7777+2;A;*7777+3;-A", 0200, 0, 07777, 1, NONE);
+        CHECK.made("7777+1;0-1;A=7777+2;A;*7777+3;-A", 2, 07777, NONE);
+    }
+
     private static void lengthOfNames() {
         CHECK.says("NAMES: a letter A .. Z, then letters and digits, seven at most (more is no token)");
         CHECK.made("A=1;A234567=2;ABCDEFG=4;ABCDEFH=10;A A234567;ABCDEFG;ABCDEFH", 0200, 3, 4, 010, NONE);
@@ -370,6 +383,7 @@ public final class SourceBoundsTest {
         CHECK.says("V: P {(+ | - | ! | &) P}, from the left: sum, difference, or, and.");
         CHECK.made("7777+1;7777+7777;0-1;0-7777;5252!2525;5252&2525", 0200, 0, 07776, 07777, 1, 07777, 0, NONE);
         CHECK.made("1+2&1;1!2+2;7-1&2;2&3+1", 0200, 1, 5, 2, 3, NONE);
+        CHECK.made("7!5;7777!1;7&0;7777&1", 0200, 7, 07777, 0, 1, NONE);
         CHECK.says("- being 0 less it; . is the PLACE.");
         CHECK.made("-1;-0;-7777;1--1;1+-1;-.;.-.;-\"A", 0200, 07777, 0, 1, 2, 0, 07573, 0, 07477, NONE);
         CHECK.made("*0;.;-.;*7777;.", 0, 0, 07777, NONE);
@@ -773,6 +787,25 @@ public final class SourceBoundsTest {
             used.append(" X").append(i);
         }
         CHECK.fault(used.toString(), 3, 2);
+        // As many names as a tape can hold: the last of them is told, and told twice.
+        String crowd = crowd(1994);
+        CHECK.faultAt(crowd + "\nZZ,`ZZ,", 4);
+        CHECK.fault(crowd + "\nZZ,", 3, 0);
+    }
+
+    /** Names side by side, all different, none of them there or ZZ, in so many bytes at most. */
+    private static String crowd(int most) {
+        StringBuilder text = new StringBuilder();
+        for (char first = 'A'; first <= 'Y'; first++) {
+            if (first != 'I') {
+                text.append(first).append(' ');
+            }
+        }
+        String seconds = "ABCDEFGHIJKLMNOPQRSTUVWXYZ0123456789";
+        for (int i = 0; i < 25 * seconds.length() && text.length() + 3 <= most; i++) {
+            text.append((char) ('A' + i % 25)).append(seconds.charAt(i / 25)).append(' ');
+        }
+        return text.toString();
     }
 
     private static void pagesNotThere() {
